@@ -42,7 +42,7 @@ public final class PrefetchRules {
         accesses++;
         nextCycle();
         int answer = ask(line);
-        rule.learn(place, line);
+        rule.hear(place, line);
         for (int k = 0; k < rule.saidCount(); k++) {
             fetch(rule.saidLine(k));
         }
@@ -347,7 +347,7 @@ public final class PrefetchRules {
             this.degree = degree;
         }
 
-        /** Step 3 of an access, up to which lines are said. */
+        /** Learns of an access and says the lines that follow from it. */
         abstract void learn(int place, int line);
 
         /** The answer to known. */
@@ -360,6 +360,11 @@ public final class PrefetchRules {
             return 0;
         }
 
+        final void hear(int place, int line) {
+            saidCount = 0;
+            learn(place, line);
+        }
+
         final int degree() {
             return degree;
         }
@@ -370,10 +375,6 @@ public final class PrefetchRules {
 
         final int saidLine(int k) {
             return k >= 0 && k < saidCount ? said[k] : NONE;
-        }
-
-        final void sayNothing() {
-            saidCount = 0;
         }
 
         final void say(int line) {
@@ -397,7 +398,6 @@ public final class PrefetchRules {
         }
 
         void learn(int place, int line) {
-            sayNothing();
             sayInSteps(line, 1);
         }
 
@@ -427,7 +427,6 @@ public final class PrefetchRules {
         }
 
         void learn(int place, int line) {
-            sayNothing();
             int row = rowOf(place);
             if (!isOwn(row, place)) {
                 begin(row, place, line);
@@ -491,7 +490,6 @@ public final class PrefetchRules {
         }
 
         void learn(int place, int line) {
-            sayNothing();
             for (int k = 0; k < size; k++) {
                 int way = wayTo(line - lines[k]);
                 if (way != 0 && ways[k] != -way) {
@@ -559,7 +557,6 @@ public final class PrefetchRules {
         }
 
         void learn(int place, int line) {
-            sayNothing();
             tryCandidate(line);
             if (offset != 0) {
                 sayInSteps(line, offset);
@@ -645,7 +642,6 @@ public final class PrefetchRules {
         }
 
         void learn(int place, int line) {
-            sayNothing();
             if (begun) {
                 follow(before, line);
             }

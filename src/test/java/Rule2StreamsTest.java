@@ -54,6 +54,8 @@ public final class Rule2StreamsTest {
     }
 
     private static void sameLine() {
+        // What was said for 101 is not said again for a line that begins a stream.
+        check.count(begun(2, 100, 101, 101, 500), 6, 0);
         waysDue(begun(1, 100, 100), 0, 0);
         waysDue(begun(1, 100, 101, 101), 0, 1);
         check.queue(begun(1, 100, 100, 100));

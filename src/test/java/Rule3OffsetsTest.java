@@ -15,6 +15,7 @@ public final class Rule3OffsetsTest {
         tooLow();
         offAndOn();
         rowOfThirtyTwo();
+        rowGoesOn();
         rowWithTheSameLine();
         rowStaysAfterRound();
         emptyRow();
@@ -137,6 +138,9 @@ public final class Rule3OffsetsTest {
         check.known(f.x, 0, 0);
         check.queue(f.x);
         check.count(f.x, 13, 1);
+        for (int k = 0; k < 12; k++) {
+            check.trust(f.x, k, 0);
+        }
         int filtered = f.x.count(6);
         f.access(false);
         check.queue(f.x);
@@ -166,6 +170,26 @@ public final class Rule3OffsetsTest {
         check.trust(f.x, 9, 0);
         f.x.access(0, 3 * APART + 15);
         check.trust(f.x, 10, 1);
+    }
+
+    private static void rowGoesOn() {
+        PrefetchRules in = askedAgain(32);
+        PrefetchRules out = askedAgain(33);
+        for (int k = 0; k < 12; k++) {
+            check.trust(in, k, 12);
+            check.trust(out, k, 0);
+        }
+    }
+
+    /** 15 turns, of which all but the first three ask for a candidate more than the line so many accesses ago. */
+    private static PrefetchRules askedAgain(int ago) {
+        PrefetchRules x = new PrefetchRules(3, 1, 1, 64);
+        int[] lines = new int[180];
+        for (int n = 0; n < lines.length; n++) {
+            lines[n] = n < 36 ? APART * n : lines[n - ago] + CANDIDATES[n % 12];
+            x.access(0, lines[n]);
+        }
+        return x;
     }
 
     private static void rowWithTheSameLine() {

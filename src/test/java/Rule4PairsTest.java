@@ -6,6 +6,7 @@ public final class Rule4PairsTest {
 
     public static void main(String[] args) {
         newerAndOlder();
+        sameOneAgain();
         oneOnly();
         filteredLines();
         otherOwner();
@@ -52,6 +53,12 @@ public final class Rule4PairsTest {
         row(x, 1, 4, 2);
         check.queue(begun(3, 1, 2, 1, 3, 1), 2, 3);
         check.queue(begun(4, 1, 3, 1, 2, 9, 1), 3, 2);
+    }
+
+    private static void sameOneAgain() {
+        PrefetchRules x = begun(2, 1, 2, 1, 2, 1, 2);
+        row(x, 1, 2, NONE);
+        row(x, 2, 1, NONE);
     }
 
     private static void oneOnly() {
