@@ -126,6 +126,15 @@ public final class PrefetchRules {
         return 1 + Math.floorMod(given - 1, greatest);
     }
 
+    private static int indexOf(int line, int[] lines, int size) {
+        for (int k = 0; k < size && k < lines.length; k++) {
+            if (lines[k] == line) {
+                return k;
+            }
+        }
+        return NONE;
+    }
+
     private static Rule ruleOf(int kind, int degree) {
         switch (kind) {
             case 1: return new Strides(degree);
@@ -219,12 +228,7 @@ public final class PrefetchRules {
         }
 
         int find(int line) {
-            for (int k = 0; k < size; k++) {
-                if (lines[k] == line) {
-                    return k;
-                }
-            }
-            return NONE;
+            return indexOf(line, lines, size);
         }
 
         int markCount() {
@@ -305,12 +309,7 @@ public final class PrefetchRules {
         }
 
         int find(int line) {
-            for (int k = 0; k < size; k++) {
-                if (lines[k] == line) {
-                    return k;
-                }
-            }
-            return NONE;
+            return indexOf(line, lines, size);
         }
 
         void add(int line, int cycle) {
@@ -605,12 +604,7 @@ public final class PrefetchRules {
         }
 
         private boolean isRecent(int line) {
-            for (int k = 0; k < recentCount; k++) {
-                if (recent[k] == line) {
-                    return true;
-                }
-            }
-            return false;
+            return indexOf(line, recent, recentCount) != NONE;
         }
 
         private void remember(int line) {
