@@ -1,3 +1,5 @@
+import java.util.Arrays;
+
 /** Rule 3, OFFSETS: candidates that are tried in turn, rounds, and the row of the lines asked for last. */
 public final class Rule3OffsetsTest {
     private static final int[] CANDIDATES = {1, 2, 3, 4, 5, 6, 8, 9, 10, 12, 15, 16};
@@ -6,20 +8,29 @@ public final class Rule3OffsetsTest {
     private static final Check check = new Check();
 
     public static void main(String[] args) {
-        offsetAtFirst();
-        eachCandidate();
-        endsWithFifteen();
-        endsWithTwentyTries();
-        leastOfSeveral();
-        lastTryCounts();
-        tooLow();
-        offAndOn();
-        rowOfThirtyTwo();
-        rowGoesOn();
-        rowWithTheSameLine();
-        rowStaysAfterRound();
-        emptyRow();
-        wraps();
+        check.sentence("a row of the 32 lines asked for last", Rule3OffsetsTest::rowOfThirtyTwo);
+        check.sentence("a row of the 32 lines asked for last", Rule3OffsetsTest::emptyRow);
+        check.sentence("(behind step 3 each line is put there, the oldest goes)", Rule3OffsetsTest::rowGoesOn);
+        check.sentence("(behind step 3 each line is put there, the oldest goes)", Rule3OffsetsTest::rowWithTheSameLine);
+        check.sentence("an OFFSET, 1 at first", Rule3OffsetsTest::offsetAtFirst);
+        check.sentence("candidates 1, 2, 3, 4, 5, 6, 8, 9, 10, 12, 15, 16 with scores 0",
+                Rule3OffsetsTest::eachCandidate);
+        check.sentence("tried in turn, one an access", Rule3OffsetsTest::oneAnAccess);
+        check.sentence("when the line less the candidate is in the row its score goes up by 1",
+                Rule3OffsetsTest::goesUpByOne);
+        check.sentence("when it is 15", Rule3OffsetsTest::endsWithFifteen);
+        check.sentence("or all candidates have been tried 20 times, a ROUND ends", Rule3OffsetsTest::endsWithTwentyTries);
+        check.sentence("the offset is the candidate with the greatest score", Rule3OffsetsTest::lastTryCounts);
+        check.sentence("(the least one, of several;", Rule3OffsetsTest::leastOfSeveral);
+        check.sentence("0, when that is below 4", Rule3OffsetsTest::belowFour);
+        check.sentence("then nothing is said", Rule3OffsetsTest::nothingIsSaid);
+        check.sentence("scores and turns begin anew (with the first candidate, at the next access)",
+                Rule3OffsetsTest::beginsAnew);
+        check.sentence("scores and turns begin anew", Rule3OffsetsTest::rowStaysAfterRound);
+        check.sentence("scores and turns begin anew", Rule3OffsetsTest::threeRounds);
+        check.sentence("Then (with the offset as it is now) line + offset to line + d * offset.",
+                Rule3OffsetsTest::offsetAsItIsNow);
+        check.sentence("Sums of lines are of 32 bits.", Rule3OffsetsTest::wraps);
         check.end();
     }
 
@@ -39,6 +50,12 @@ public final class Rule3OffsetsTest {
             last = scores ? last + CANDIDATES[tries % 12] : fresh;
             x.access(0, last);
             tries++;
+        }
+
+        /** A line that scores for the candidate of this turn, wherever the rounds stand. */
+        void accessOf(int turn) {
+            last += CANDIDATES[turn % 12];
+            x.access(0, last);
         }
 
         /** A round's first tries: candidate k scores in its first wanted[k] turns behind the very first access. */
@@ -73,21 +90,66 @@ public final class Rule3OffsetsTest {
         }
     }
 
-    private static void endsWithFifteen() {
+    private static void oneAnAccess() {
+        // Only the candidate whose turn it is may score, though the row has what others would need.
+        Feed f = new Feed(1);
+        f.access(false);
+        for (int n = 1; n < 60; n++) {
+            int[] before = scores(f.x);
+            f.access(true);
+            for (int k = 0; k < 12; k++) {
+                check.trust(f.x, k, before[k] + (k == n % 12 ? 1 : 0));
+            }
+        }
+    }
+
+    private static int[] scores(PrefetchRules x) {
+        int[] scores = new int[12];
+        for (int k = 0; k < 12; k++) {
+            scores[k] = x.trust(k);
+        }
+        return scores;
+    }
+
+    private static void goesUpByOne() {
+        // By 1 though the line stands there many times; the line more the candidate does not count.
+        PrefetchRules x = new PrefetchRules(3, 1, 1, 8);
+        for (int i = 0; i < 12; i++) {
+            x.access(0, 70);
+        }
+        x.access(0, 71);
+        check.trust(x, 0, 1);
+        x.access(0, 68);
+        check.trust(x, 1, 0);
+        x.access(0, 70);
+        check.trust(x, 2, 0);
+        x.access(0, 74);
+        check.trust(x, 3, 1);
+    }
+
+    /** Steps of 3: 3 and all its multiples score, 3 the first of them to have 15. */
+    private static PrefetchRules inThrees(int accesses) {
         PrefetchRules x = new PrefetchRules(3, 2, 1, 64);
-        for (int i = 0; i < 170; i++) {
+        for (int i = 0; i < accesses; i++) {
             x.access(0, 3 * i);
         }
+        return x;
+    }
+
+    private static void endsWithFifteen() {
+        PrefetchRules x = inThrees(170);
         check.known(x, 0, 1);
         check.trust(x, 2, 14);
         check.trust(x, 5, 14);
         check.trust(x, 0, 0);
         check.count(x, 13, 0);
-        // The offset is the new one at the very access that ends the round.
         x.access(0, 510);
         check.known(x, 0, 3);
         check.count(x, 13, 1);
-        check.queue(x, 513, 516);
+    }
+
+    private static void beginsAnew() {
+        PrefetchRules x = inThrees(171);
         for (int k = 0; k < 12; k++) {
             check.trust(x, k, 0);
         }
@@ -98,6 +160,50 @@ public final class Rule3OffsetsTest {
         check.trust(x, 1, 0);
         x.access(0, 602);
         check.trust(x, 2, 1);
+        PrefetchRules y = inThrees(171);
+        y.access(0, 511);
+        check.trust(y, 0, 1);
+        // The second round takes its own 20 turns.
+        Feed f = new Feed(1);
+        f.turns(20);
+        check.count(f.x, 13, 1);
+        for (int k = 0; k < 239; k++) {
+            f.access(false);
+        }
+        check.count(f.x, 13, 1);
+        f.access(false);
+        check.count(f.x, 13, 2);
+    }
+
+    private static void threeRounds() {
+        // As fast as rounds can go: 170 accesses, then 169 for each one more.
+        Feed f = new Feed(1);
+        f.access(false);
+        int[] ends = {170, 339, 508};
+        for (int n = 2; n <= 512; n++) {
+            int done = f.x.count(13);
+            f.accessOf(n - 1 - (done == 0 ? 0 : ends[done - 1]));
+            check.count(f.x, 13, n < 170 ? 0 : n < 339 ? 1 : n < 508 ? 2 : 3);
+        }
+        check.trust(f.x, 0, 1);
+        check.known(f.x, 0, 1);
+    }
+
+    private static void offsetAsItIsNow() {
+        PrefetchRules x = inThrees(170);
+        check.queue(x, 508, 509);
+        // The offset is the new one at the very access that ends the round.
+        x.access(0, 510);
+        check.queue(x, 513, 516);
+        x.access(0, 900);
+        check.queue(x, 903, 906);
+        // With every degree.
+        for (int degree = 1; degree <= 4; degree++) {
+            Feed f = new Feed(degree);
+            f.turns(20, 0, 0, 0, 0, 0, 0, 0, 0, 0, 0, 0, 9);
+            int[] due = {f.last + 16, f.last + 32, f.last + 48, f.last + 64};
+            check.queue(f.x, Arrays.copyOf(due, degree));
+        }
     }
 
     private static void endsWithTwentyTries() {
@@ -132,19 +238,29 @@ public final class Rule3OffsetsTest {
         check.known(f.x, 0, 16);
     }
 
-    private static void tooLow() {
+    private static void belowFour() {
         Feed f = new Feed(4);
         f.turns(20, 3, 3, 3, 3, 3, 3, 3, 3, 3, 3, 3, 3);
         check.known(f.x, 0, 0);
-        check.queue(f.x);
         check.count(f.x, 13, 1);
-        for (int k = 0; k < 12; k++) {
-            check.trust(f.x, k, 0);
-        }
+        Feed four = new Feed(4);
+        four.turns(20, 3, 3, 3, 3, 3, 3, 3, 3, 3, 3, 4, 3);
+        check.known(four.x, 0, 15);
+        Feed none = new Feed(4);
+        none.turns(20);
+        check.known(none.x, 0, 0);
+    }
+
+    private static void nothingIsSaid() {
+        Feed f = new Feed(4);
+        f.turns(20, 3, 3, 3);
+        check.known(f.x, 0, 0);
+        check.queue(f.x);
         int filtered = f.x.count(6);
         f.access(false);
         check.queue(f.x);
         check.count(f.x, 6, filtered);
+        offAndOn();
     }
 
     private static void offAndOn() {
@@ -211,10 +327,15 @@ public final class Rule3OffsetsTest {
     }
 
     private static void rowStaysAfterRound() {
+        // Of the 240 lines of the round the last 32 are still there.
         Feed f = new Feed(1);
         f.turns(20);
-        f.access(true);
+        f.x.access(0, 209 * APART + 1);
         check.trust(f.x, 0, 1);
+        f.x.access(0, 209 * APART + 2);
+        check.trust(f.x, 1, 0);
+        f.x.access(0, 240 * APART + 3);
+        check.trust(f.x, 2, 1);
     }
 
     private static void emptyRow() {
@@ -229,10 +350,14 @@ public final class Rule3OffsetsTest {
     }
 
     private static void wraps() {
-        PrefetchRules x = new PrefetchRules(3, 1, 1, 8);
+        PrefetchRules x = new PrefetchRules(3, 4, 1, 8);
         x.access(0, Integer.MAX_VALUE);
-        check.queue(x, Integer.MIN_VALUE);
+        check.queue(x, Integer.MIN_VALUE, Integer.MIN_VALUE + 1, Integer.MIN_VALUE + 2, Integer.MIN_VALUE + 3);
         x.access(0, Integer.MIN_VALUE + 1);
         check.trust(x, 1, 1);
+        x.access(0, Integer.MIN_VALUE + 2);
+        check.trust(x, 2, 1);
+        x.access(0, Integer.MIN_VALUE + 4);
+        check.trust(x, 3, 0);
     }
 }
