@@ -43,7 +43,8 @@ public final class PrefetchRules {
         nextCycle();
         int answer = ask(line);
         rule.hear(place, line);
-        for (int k = 0; k < rule.saidCount(); k++) {
+        int said = rule.saidCount();
+        for (int k = 0; k < said; k++) {
             fetch(rule.saidLine(k));
         }
         return answer;
@@ -207,8 +208,9 @@ public final class PrefetchRules {
         private int size;
 
         Store(int greatest) {
-            lines = new int[greatest];
-            marks = new boolean[greatest];
+            int room = Math.max(1, greatest);
+            lines = new int[room];
+            marks = new boolean[room];
         }
 
         int size() {
@@ -220,11 +222,11 @@ public final class PrefetchRules {
         }
 
         int lineAt(int k) {
-            return k >= 0 && k < size ? lines[k] : NONE;
+            return has(k) ? lines[k] : NONE;
         }
 
         boolean isMarked(int k) {
-            return k >= 0 && k < size && marks[k];
+            return has(k) && marks[k];
         }
 
         int find(int line) {
@@ -233,7 +235,7 @@ public final class PrefetchRules {
 
         int markCount() {
             int n = 0;
-            for (int k = 0; k < size; k++) {
+            for (int k = 0; k < size && k < marks.length; k++) {
                 if (marks[k]) {
                     n++;
                 }
@@ -242,18 +244,19 @@ public final class PrefetchRules {
         }
 
         void clearMarks() {
-            for (int k = 0; k < size; k++) {
+            for (int k = 0; k < size && k < marks.length; k++) {
                 marks[k] = false;
             }
         }
 
         /** Whether the line that went had its mark. */
         boolean dropLast() {
-            if (size < 1) {
+            int last = size - 1;
+            if (!has(last)) {
                 return false;
             }
-            size--;
-            return marks[size];
+            size = last;
+            return marks[last];
         }
 
         void putFirst(int line, boolean mark) {
@@ -264,13 +267,17 @@ public final class PrefetchRules {
         }
 
         void use(int k) {
-            if (k >= 0 && k < size) {
+            if (has(k)) {
                 moveInFront(k, lines[k], false);
             }
         }
 
+        private boolean has(int k) {
+            return k >= 0 && k < size && k < lines.length;
+        }
+
         private void moveInFront(int k, int line, boolean mark) {
-            for (int i = k; i > 0; i--) {
+            for (int i = Math.min(k, lines.length - 1); i > 0; i--) {
                 lines[i] = lines[i - 1];
                 marks[i] = marks[i - 1];
             }
@@ -296,11 +303,11 @@ public final class PrefetchRules {
         }
 
         int lineAt(int k) {
-            return k >= 0 && k < size ? lines[k] : NONE;
+            return has(k) ? lines[k] : NONE;
         }
 
         int cycleAt(int k) {
-            return k >= 0 && k < size ? cycles[k] : NONE;
+            return has(k) ? cycles[k] : NONE;
         }
 
         // All fetches take equally long, so none is due before the first one is.
@@ -313,7 +320,7 @@ public final class PrefetchRules {
         }
 
         void add(int line, int cycle) {
-            if (size < GREATEST) {
+            if (size >= 0 && size < GREATEST) {
                 lines[size] = line;
                 cycles[size] = cycle;
                 size++;
@@ -321,11 +328,11 @@ public final class PrefetchRules {
         }
 
         void remove(int k) {
-            if (k < 0 || k >= size) {
+            if (!has(k)) {
                 return;
             }
             size--;
-            for (int i = k; i < size; i++) {
+            for (int i = k; i < size && i + 1 < GREATEST; i++) {
                 lines[i] = lines[i + 1];
                 cycles[i] = cycles[i + 1];
             }
@@ -333,6 +340,10 @@ public final class PrefetchRules {
 
         void clear() {
             size = 0;
+        }
+
+        private boolean has(int k) {
+            return k >= 0 && k < size && k < GREATEST;
         }
     }
 
@@ -373,11 +384,11 @@ public final class PrefetchRules {
         }
 
         final int saidLine(int k) {
-            return k >= 0 && k < saidCount ? said[k] : NONE;
+            return k >= 0 && k < saidCount && k < said.length ? said[k] : NONE;
         }
 
         final void say(int line) {
-            if (saidCount < said.length) {
+            if (saidCount >= 0 && saidCount < said.length) {
                 said[saidCount] = line;
                 saidCount++;
             }
@@ -489,7 +500,7 @@ public final class PrefetchRules {
         }
 
         void learn(int place, int line) {
-            for (int k = 0; k < size; k++) {
+            for (int k = 0; k < size && k < GREATEST; k++) {
                 int way = wayTo(line - lines[k]);
                 if (way != 0 && ways[k] != -way) {
                     moveInFront(k, line, way);
@@ -505,7 +516,7 @@ public final class PrefetchRules {
         }
 
         int confidence(int of) {
-            return of >= 0 && of < size ? ways[of] : 0;
+            return of >= 0 && of < size && of < GREATEST ? ways[of] : 0;
         }
 
         /** 0 for a step that no stream takes. */
@@ -524,7 +535,7 @@ public final class PrefetchRules {
         }
 
         private void moveInFront(int k, int line, int way) {
-            for (int i = k; i > 0; i--) {
+            for (int i = Math.min(k, GREATEST - 1); i > 0; i--) {
                 lines[i] = lines[i - 1];
                 ways[i] = ways[i - 1];
             }
@@ -543,10 +554,8 @@ public final class PrefetchRules {
         private static final int RECENT = 32;
 
         private final int[] recent = new int[RECENT];
-        private int recentCount;
-        private int oldest;
+        private int asked;
         private final int[] scores = new int[CANDIDATE_COUNT];
-        private int turn;
         private int tries;
         private int offset = 1;
         private int rounds;
@@ -576,14 +585,13 @@ public final class PrefetchRules {
         }
 
         private void tryCandidate(int line) {
+            int turn = Math.floorMod(tries, CANDIDATE_COUNT);
             if (isRecent(line - CANDIDATES[turn])) {
                 scores[turn]++;
             }
             tries++;
             if (scores[turn] >= ROUND_SCORE || tries >= ROUND_TRIES) {
                 endRound();
-            } else {
-                turn = turn + 1 < CANDIDATE_COUNT ? turn + 1 : 0;
             }
         }
 
@@ -598,23 +606,18 @@ public final class PrefetchRules {
             for (int k = 0; k < CANDIDATE_COUNT; k++) {
                 scores[k] = 0;
             }
-            turn = 0;
             tries = 0;
             rounds++;
         }
 
         private boolean isRecent(int line) {
-            return indexOf(line, recent, recentCount) != NONE;
+            return indexOf(line, recent, Math.min(RECENT, asked)) != NONE;
         }
 
         private void remember(int line) {
-            if (recentCount < RECENT) {
-                recent[recentCount] = line;
-                recentCount++;
-            } else {
-                recent[oldest] = line;
-                oldest = oldest + 1 < RECENT ? oldest + 1 : 0;
-            }
+            // Round and round: the place behind the newest line is the oldest one's.
+            recent[Math.floorMod(asked, RECENT)] = line;
+            asked++;
         }
     }
 
